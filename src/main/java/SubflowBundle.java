@@ -390,10 +390,6 @@ public final class SubflowBundle {
             units = newUnits;
             times = 0;
         }
-
-        boolean bears(int wanted) {
-            return wanted >= unit && wanted < unit + units;
-        }
     }
 
     /** A path with its pipes and what A knows of it. */
@@ -459,7 +455,8 @@ public final class SubflowBundle {
 
         boolean bears(int unit) {
             for (int i = 0; i < segmentCount; i++) {
-                if (segments[i].bears(unit)) {
+                Segment segment = segments[i];
+                if (unit >= segment.unit && unit < segment.unit + segment.units) {
                     return true;
                 }
             }
@@ -570,14 +567,14 @@ public final class SubflowBundle {
         }
 
         void sendAll(int now) {
-            // No segment is acknowledged meanwhile, so the paths are full after so many.
+            // Sending changes no state and acknowledges nothing: so many segments fill all paths.
+            int wanted = isAnyOpen() ? OPEN : STALE;
             for (int i = 0; i < PATHS * MAX_UNACKED; i++) {
-                int wanted = isAnyOpen() ? OPEN : STALE;
                 Path path = quickestThatCan(wanted);
                 if (path == null) {
                     return;
                 }
-                sendUnits(path, now);
+                sendFirst(path, nextSegment(path), now);
             }
         }
 
@@ -595,26 +592,19 @@ public final class SubflowBundle {
             for (int p = 0; p < PATHS; p++) {
                 Path path = paths[p];
                 boolean isCandidate = path.state == wanted && path.hasRoom();
-                if (isCandidate && (best == null || path.isQuickerThan(best)) && can(path)) {
+                if (isCandidate && (best == null || path.isQuickerThan(best)) && firstUnit(path) != NONE) {
                     best = path;
                 }
             }
             return best;
         }
 
-        private boolean can(Path path) {
-            int u = leastLoose(path);
-            if (u == NONE) {
-                return false;
-            }
-            return u < edge || u == acknowledged && path.segmentCount == 0;
-        }
-
-        /** The least unit loose for the path, but NONE when that is beyond EDGE, where nothing is sent. */
-        private int leastLoose(Path path) {
+        /** The unit that the next segment of the path begins with; NONE when the path can not get one. */
+        private int firstUnit(Path path) {
             for (int u = acknowledged; u < stream.length && u <= edge; u++) {
                 if (isLoose(u, path)) {
-                    return u;
+                    boolean isProbe = u == acknowledged && path.segmentCount == 0;
+                    return u < edge || isProbe ? u : NONE;
                 }
             }
             return NONE;
@@ -633,17 +623,17 @@ public final class SubflowBundle {
             return true;
         }
 
-        private void sendUnits(Path path, int now) {
-            int first = leastLoose(path);
+        private Segment nextSegment(Path path) {
+            int first = firstUnit(path);
             if (first == NONE) {
-                return;
+                return null;
             }
             int units = 1;
             while (units < mss && first + units < edge && isLoose(first + units, path)) {
                 units++;
             }
             countCarried(first, units);
-            sendFirst(path, path.addSegment(units, first, units), now);
+            return path.addSegment(units, first, units);
         }
 
         private void countCarried(int first, int units) {

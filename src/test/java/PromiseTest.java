@@ -340,6 +340,9 @@ public final class PromiseTest {
         ticksOneByOne();
         orderInOneTick();
         windowAndProbe();
+        probeRules();
+        edgeStays();
+        brokenRun();
         choiceOfPath();
         staleOnes();
     }
@@ -404,6 +407,64 @@ public final class PromiseTest {
         x.pass(1);
         due("taken", x.received(), 5);
         due("limit", x.word(0, true, 0, 3), 5);
+    }
+
+    private static void probeRules() {
+        SubflowBundle x = opened(4, 4, 2);
+        openMore(x, 1, 3);
+        x.write(6, 0);
+        x.pass(1);
+        due("path 0 has all below EDGE", x.unacked(0), 4);
+        due("no probe while units are under way", x.unacked(1), 0);
+
+        SubflowBundle y = opened(4, 4, 2);
+        y.open(1, 3, y.token());
+        y.twice(1, false, 0, 11);
+        y.pass(6);
+        y.write(5, 0);
+        y.pass(3);
+        y.lose(0, true, 0);
+        // The late SYN is answered at tick 18 with what path 0 brought.
+        y.pass(5);
+        due("known by path 1", y.acknowledged(), 4);
+        due("path 0 waits for its own ACK", y.unacked(0), 4);
+        due("so path 1 gets the probe", y.unacked(1), 1);
+    }
+
+    /** An old ACK does not take EDGE back. */
+    private static void edgeStays() {
+        SubflowBundle x = opened(4, 4, 2);
+        x.write(4, 0);
+        x.pass(3);
+        x.twice(0, true, 0, 20);
+        x.pass(2);
+        for (int i = 0; i < 4; i++) {
+            due("byte", x.read(), i);
+        }
+        x.write(1, 0);
+        x.pass(5);
+        due("the probe opened the window", x.acknowledged(), 5);
+        due("the old ACK", x.pass(13), 1);
+        x.write(4, 0);
+        x.pass(1);
+        due("up to EDGE 8", x.unacked(0), 3);
+    }
+
+    /** A segment ends before a unit that is not loose. */
+    private static void brokenRun() {
+        SubflowBundle x = opened(4, 16, 4);
+        openMore(x, 1, 5);
+        for (int i = 0; i < 4; i++) {
+            x.write(2, 2 * i);
+            x.pass(1);
+        }
+        due("three on path 0", x.unacked(0), 6);
+        due("the fourth on path 1", x.unacked(1), 2);
+        x.close(0);
+        x.pass(1);
+        due("two more segments", x.flight(1, false), 3);
+        due("of 4 and 2 units", x.unacked(1), 8);
+        due("counted", x.reinjected(), 6);
     }
 
     private static void choiceOfPath() {
@@ -509,6 +570,13 @@ public final class PromiseTest {
         yes("an ACK", x.lose(0, true, 1));
         no("gone", x.lose(0, true, 1));
         due("one arrives", x.pass(2), 1);
+
+        SubflowBundle y = opened(1, 16, 2);
+        y.write(3, 0);
+        y.pass(1);
+        yes("the oldest", y.lose(0, false, 0));
+        due("then the second", y.word(0, false, 0, 2), 1);
+        due("then the third", y.word(0, false, 1, 2), 2);
     }
 
     private static void twice() {
@@ -640,6 +708,10 @@ public final class PromiseTest {
         SubflowBundle z = new SubflowBundle(4, 16, 0);
         z.open(0, 1, 0x00010000 + 65535);
         words(z, 0, false, 65534, 0, 0x1FFFF, 0);
+        SubflowBundle again = new SubflowBundle(4, 16, 0);
+        again.open(1, 1, 0xFFFFF000);
+        // 0x1000 + 0xFFFF + 0xF000 = 0x1FFFF, folded 0x10000, folded 1.
+        words(again, 1, false, 0x1000FFFE, 0, 0xFFFFF000, 0);
         SubflowBundle first = opened(4, 16, 1);
         openMore(first, 3, 2);
         first.write(9, 250);
