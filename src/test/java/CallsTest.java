@@ -21,6 +21,7 @@ public final class CallsTest {
 
     public static void main(String[] args) {
         constants();
+        lastOf512Calls();
         newObject();
         opens();
         closes();
@@ -105,6 +106,19 @@ public final class CallsTest {
         says("The constants");
         due("NONE", SubflowBundle.NONE, -1);
         due("OVER", SubflowBundle.OVER, -2);
+    }
+
+    private static void lastOf512Calls() {
+        says("An object is used for at most 512 calls after it has been made");
+        SubflowBundle x = opened(1, 56, 1);
+        x.write(2, 8);
+        for (int call = 5; call <= 508; call++) {
+            x.pass(60);
+        }
+        due("call 509", x.read(), 8);
+        due("call 510", x.received(), 2);
+        due("call 511", x.pass(60), 0);
+        due("call 512", x.read(), 9);
     }
 
     // Promise 1.
