@@ -7,11 +7,15 @@ import java.util.TreeSet;
 
 /**
  * Runs of mixed calls, told by a fixed seed, on the class and on a model that follows the
- * document's sentences one by one and cares for nothing else.
+ * document's sentences one by one and cares for nothing else. Some runs look at everything after
+ * almost every call, others make hundreds of calls between two looks.
  */
 public final class ModelTest {
-    private static final int RUNS = 1500;
+    private static final int RUNS = 6000;
+    /** What an object answers after so many calls is free: looks count too. */
     private static final int CALLS = 512;
+    /** How many calls there are between two looks at everything, about: many looks make short runs. */
+    private static final int[] PAUSES = {1, 5, 25, 200};
     private static int wrong = 0;
 
     public static void main(String[] args) {
@@ -34,12 +38,21 @@ public final class ModelTest {
         // Some runs are rough and some smooth, so that all states come up.
         int trouble = dice.nextInt(4);
         int longest = 1 + dice.nextInt(dice.nextInt(3) == 0 ? 61 : 12);
-        for (int call = 0; call < CALLS; call++) {
+        int pause = PAUSES[run % PAUSES.length];
+        int untilLook = dice.nextInt(2 * pause);
+        int left = CALLS;
+        while (left > 0) {
             String told = oneCall(dice, x, m, trouble, longest);
-            String seen = differences(x, m);
-            if (told != null || seen != null) {
+            left--;
+            untilLook--;
+            if (told == null && untilLook < 0 && left >= m.callsOfLook()) {
+                left -= m.callsOfLook();
+                untilLook = dice.nextInt(2 * pause);
+                told = look(x, m);
+            }
+            if (told != null) {
                 wrong++;
-                System.out.println("run " + run + ", call " + call + ": " + told + " / " + seen);
+                System.out.println("run " + run + ", with " + left + " calls left: " + told);
                 return;
             }
         }
@@ -80,26 +93,52 @@ public final class ModelTest {
         if (kind < 91 && trouble > 1) {
             return same("lose", x.lose(p, back, k), m.lose(p, back, k));
         }
-        if (trouble > 0) {
+        if (kind < 97 && trouble > 0) {
             int late = dice.nextInt(8) == 0 ? dice.nextInt(45) - 2 : 1 + dice.nextInt(12);
             return same("twice", x.twice(p, back, k, late), m.twice(p, back, k, late));
         }
-        return same("word", x.word(p, back, k, dice.nextInt()), 0L);
+        return oneLook(dice, x, m, p, back, k);
     }
 
-    private static String differences(SubflowBundle x, Model m) {
-        for (int p = -1; p <= 4; p++) {
-            boolean is = p >= 0 && p < 4;
-            Model.Way w = is ? m.ways[p] : null;
+    private static String oneLook(Random dice, SubflowBundle x, Model m, int p, boolean back, int k) {
+        int i = dice.nextInt(6) == 0 ? dice.nextInt() : dice.nextInt(6) - 1;
+        switch (dice.nextInt(12)) {
+            case 0:
+                return same("state", x.state(p), m.state(p));
+            case 1:
+                return same("smooth", x.smooth(p), m.smooth(p));
+            case 2:
+                return same("timeout", x.timeout(p), m.timeout(p));
+            case 3:
+                return same("unacked", x.unacked(p), m.unacked(p));
+            case 4:
+                return same("sent", x.sent(p), m.sent(p));
+            case 5:
+                return same("flight", x.flight(p, back), m.flight(p, back));
+            case 6:
+                return same("acknowledged", x.acknowledged(), m.acknowledged);
+            case 7:
+                return same("received", x.received(), m.received());
+            case 8:
+                return same("reinjected", x.reinjected(), m.reinjected);
+            default:
+                return same("word " + i + " of copy " + k, x.word(p, back, k, i), m.word(p, back, k, i));
+        }
+    }
+
+    /** All that there is to see; as many calls as the model's callsOfLook says. */
+    private static String look(SubflowBundle x, Model m) {
+        for (int p = 0; p < 4; p++) {
             String told = first(
-                same("state", x.state(p), is ? w.state : -1),
-                same("smooth", x.smooth(p), is && w.measured ? w.s : -1),
-                same("timeout", x.timeout(p), is ? w.timeout : -1),
-                same("unacked", x.unacked(p), is ? m.unackedNumbers(w) : -1),
-                same("sent", x.sent(p), is ? w.sendings : -1),
-                same("forward flight", x.flight(p, false), is ? w.forward.size() : -1),
-                same("back flight", x.flight(p, true), is ? w.back.size() : -1),
-                words(x, m, p));
+                same("state", x.state(p), m.state(p)),
+                same("smooth", x.smooth(p), m.smooth(p)),
+                same("timeout", x.timeout(p), m.timeout(p)),
+                same("unacked", x.unacked(p), m.unacked(p)),
+                same("sent", x.sent(p), m.sent(p)),
+                same("forward flight", x.flight(p, false), m.flight(p, false)),
+                same("back flight", x.flight(p, true), m.flight(p, true)),
+                words(x, m, p, false),
+                words(x, m, p, true));
             if (told != null) {
                 return told + " on path " + p;
             }
@@ -111,12 +150,11 @@ public final class ModelTest {
             same("token", x.token(), m.token));
     }
 
-    private static String words(SubflowBundle x, Model m, int p) {
-        for (int k = -1; k <= 6; k++) {
-            for (int i = -1; i <= 4; i++) {
-                if (x.word(p, false, k, i) != m.word(p, false, k, i)
-                        || x.word(p, true, k, i) != m.word(p, true, k, i)) {
-                    return "word " + i + " of copy " + k;
+    private static String words(SubflowBundle x, Model m, int p, boolean back) {
+        for (int k = 0; k < m.flight(p, back); k++) {
+            for (int i = 0; i < 4; i++) {
+                if (x.word(p, back, k, i) != m.word(p, back, k, i)) {
+                    return "word " + i + " of copy " + k + (back ? " back" : " forward");
                 }
             }
         }
@@ -204,6 +242,14 @@ public final class ModelTest {
             long turned = ((key & 0xffffffffL) << 7 | (key & 0xffffffffL) >> 25) & 0xffffffffL;
             long t = (turned * 75011 + 1234577) & 0xffffffffL;
             this.token = (int) (t ^ t >> 16);
+        }
+
+        int callsOfLook() {
+            int copies = 0;
+            for (Way w : ways) {
+                copies += w.forward.size() + w.back.size();
+            }
+            return 4 * 7 + 4 * copies + 4;
         }
 
         boolean isPath(int p) {
@@ -302,6 +348,30 @@ public final class ModelTest {
             return true;
         }
 
+        int state(int p) {
+            return isPath(p) ? ways[p].state : -1;
+        }
+
+        int smooth(int p) {
+            return isPath(p) && ways[p].measured ? ways[p].s : -1;
+        }
+
+        int timeout(int p) {
+            return isPath(p) ? ways[p].timeout : -1;
+        }
+
+        int unacked(int p) {
+            return isPath(p) ? ways[p].segs.stream().filter(Seg::unacked).mapToInt(Seg::size).sum() : -1;
+        }
+
+        int sent(int p) {
+            return isPath(p) ? ways[p].sendings : -1;
+        }
+
+        int flight(int p, boolean back) {
+            return isPath(p) ? pipe(p, back).size() : -1;
+        }
+
         int word(int p, boolean back, int k, int i) {
             if (!isPath(p) || k < 0 || k >= pipe(p, back).size() || i < 0 || i > 3) {
                 return 0;
@@ -365,10 +435,6 @@ public final class ModelTest {
                 u++;
             }
             return u;
-        }
-
-        int unackedNumbers(Way w) {
-            return w.segs.stream().filter(Seg::unacked).mapToInt(Seg::size).sum();
         }
 
         int pass(int n) {

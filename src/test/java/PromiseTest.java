@@ -265,8 +265,9 @@ public final class PromiseTest {
         yes("behind 400 bytes", x.finish());
         no("again", x.finish());
         int count = 0;
-        for (int round = 0; round < 100; round++) {
-            x.pass(4);
+        // 400 reads, and two further calls a round: so many rounds stay within 512 calls.
+        for (int round = 0; round < 30; round++) {
+            x.pass(30);
             for (int i = 0; i < 60; i++) {
                 int got = x.read();
                 if (got < 0) {

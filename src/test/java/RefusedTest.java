@@ -566,7 +566,10 @@ public final class RefusedTest {
         x.pass(60);
     }
 
-    /** 512 calls and as many again, the dearest ones: what the later ones answer is free, but they end. */
+    /**
+     * Far more than 512 calls, the dearest ones. What the later ones answer is free and not looked at;
+     * but by rule 7 of LANGUAGE.md no call may throw or fail to end, in any state.
+     */
     private static void manyCalls() {
         for (Scene scene : SCENES) {
             SubflowBundle x = scene.past().get();
